@@ -1,0 +1,53 @@
+/** What the tests share: answers that are due, and how a test ends. */
+final class Due {
+  static final int LOW = -1000000000;
+  static final int BEYOND = LOW - 1;
+  static final int NONE = LOW - 2;
+  static final int STATE = LOW - 3;
+  static final int FULL = LOW - 4;
+  static final int KIND = LOW - 5;
+  static final int PARTED = LOW - 6;
+
+  private static int asked = 0;
+  private static int wrong = 0;
+
+  private Due() {
+  }
+
+  static void due(String call, long got, long want) {
+    asked++;
+    if (got != want) {
+      wrong++;
+      if (wrong <= 50) {
+        System.out.println(call + " answered " + got + ", due is " + want);
+      }
+    }
+  }
+
+  /** Writes a text to THE TAPE, which takes it whole. */
+  static void feed(GoingAbout x, String text) {
+    for (int from = 0; from < text.length(); from += 8) {
+      int n = Math.min(8, text.length() - from);
+      long word = 0;
+      for (int i = 0; i < n; i++) {
+        word |= (text.charAt(from + i) & 255L) << 8 * i;
+      }
+      int got = x.feed(word, n);
+      if (got < LOW) {
+        due("feed of " + text, got, 0);
+      }
+    }
+  }
+
+  static int text(GoingAbout x, int use, String text) {
+    feed(x, text);
+    return x.text(use);
+  }
+
+  static void finish() {
+    System.out.println(wrong == 0 ? asked + " answers are as due" : wrong + " of " + asked + " answers are not as due");
+    if (wrong != 0) {
+      System.exit(1);
+    }
+  }
+}

@@ -391,7 +391,7 @@ public final class PromisesTest {
     int[][] shown = {
       {0, 51, 4, 0, 4}, {10, 51, 4, 0, 5}, {10, 50, 4, 0, 4}, {10, 51, 9, 0, 9}, {20, 51, 4, 0, 3}, {20, 51, 0, 0, 0},
       {30, 51, 4, 0, 4}, {40, 51, 4, 0, 6}, {40, 50, 4, 0, 5}, {40, 50, 4, 1, 4}, {40, 51, 4, 2, 5}, {40, 51, 4, 3, 6},
-      {50, 58, 4, 0, 5}, {59, 99, 4, 0, 9}, {60, 51, 4, 0, 0}};
+      {50, 58, 4, 0, 5}, {50, 50, 4, 0, 5}, {50, 9, 4, 0, 0}, {59, 99, 4, 0, 9}, {60, 51, 4, 0, 0}};
     for (int[] one : shown) {
       GoingAbout x = new GoingAbout();
       if (one[3] > 0) {
@@ -571,6 +571,9 @@ public final class PromisesTest {
     due("20: rank(3)", x.rank(3), 0);
     due("20: rank(4)", x.rank(4), BEYOND);
     due("20: rank(-1)", x.rank(-1), BEYOND);
+    x.seems(0, 81);
+    due("20: behind the first", x.rank(1), 2);
+    due("20: behind one", x.rank(0), 1);
     told("20", x, 2, 0, 0, 0, 0, 0);
   }
 
@@ -651,6 +654,9 @@ public final class PromisesTest {
     x.person(10, 0, 0);
     odds(x, 0, 1, 2);
     odds(x, 4, 1, 4);
+    x.become(0, 11);
+    odds(x, 4, 1, 2);
+    x.become(0, 0);
     x.seems(0, 45);
     odds(x, 0, 0, 1);
     x.seems(0, 44);
@@ -779,6 +785,8 @@ public final class PromisesTest {
         trace(call, x, traces[4 * kind + voice]);
       }
     }
+    x.become(2, 45);
+    due("26: one or the other, not both", x.voice(2, 2, 18), 91 - 2);
     x.become(2, 5);
     due("26: cut toward 0", x.voice(2, 3, -17), -5);
     due("26: wraps", x.voice(2, 0, MAX), MIN + 1);
@@ -903,6 +911,15 @@ public final class PromisesTest {
     row("30", x, 0, 1, 1, 2, 3, 4);
     due("30: on itself, downward", x.move(0, 2, 0, 0, 3), 3);
     row("30", x, 0, 2, 3, 4, 3, 4);
+    due("30: all of a row", x.move(1, 0, 0, 2, 3), 3);
+    row("30", x, 0, 2, 3, 4, 5, 13);
+    due("30: to all of a row", x.move(0, 1, 1, 0, 3), 3);
+    row("30", x, 1, 3, 4, 5);
+    x.put(1, 0, 4);
+    x.put(1, 1, 5);
+    x.put(1, 2, 13);
+    x.put(0, 3, 3);
+    x.put(0, 4, 4);
     due("30: none, from the end", x.move(0, 5, 1, 3, 0), 0);
     due("30: none, past the end", x.move(0, 6, 1, 0, 0), BEYOND);
     due("30: none, to past the end", x.move(0, 0, 1, 4, 0), BEYOND);
@@ -996,6 +1013,7 @@ public final class PromisesTest {
     x.call(1, 0);
     x.feed('9', 1);
     x.text(0);
+    Due.feed(x, "r*r*r");
     x.untell(1);
     x.check();
     x.tell(8);

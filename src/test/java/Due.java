@@ -44,6 +44,33 @@ final class Due {
     return x.text(use);
   }
 
+  /** A new object with PEOPLE: KIND and m, NEAR, SHOWS, three by three. */
+  static GoingAbout with(int... people) {
+    return join(new GoingAbout(), people);
+  }
+
+  static GoingAbout join(GoingAbout x, int... people) {
+    for (int i = 0; i + 2 < people.length; i += 3) {
+      x.person(people[i], people[i + 1], people[i + 2]);
+    }
+    return x;
+  }
+
+  static GoingAbout onDay(int day) {
+    GoingAbout x = new GoingAbout();
+    for (int left = day; left > 0; left -= 100) {
+      x.days(Math.min(left, 100));
+    }
+    return x;
+  }
+
+  static void sheet(GoingAbout x, int sheet, int bits, int... numbers) {
+    x.sheet(sheet, bits, numbers.length);
+    for (int i = 0; i < numbers.length; i++) {
+      x.put(sheet, i, numbers[i]);
+    }
+  }
+
   static void finish() {
     System.out.println(wrong == 0 ? asked + " answers are as due" : wrong + " of " + asked + " answers are not as due");
     if (wrong != 0) {

@@ -13,22 +13,6 @@ public final class PromisesTest {
     Due.due(call, got, want);
   }
 
-  /** People as KIND and m, NEAR, SHOWS, three by three. */
-  private static GoingAbout with(int... people) {
-    GoingAbout x = new GoingAbout();
-    for (int i = 0; i + 2 < people.length; i += 3) {
-      x.person(people[i], people[i + 1], people[i + 2]);
-    }
-    return x;
-  }
-
-  private static void sheet(GoingAbout x, int sheet, int bits, int... numbers) {
-    x.sheet(sheet, bits, numbers.length);
-    for (int i = 0; i < numbers.length; i++) {
-      x.put(sheet, i, numbers[i]);
-    }
-  }
-
   private static void told(String when, GoingAbout x, int... counts) {
     for (int k = 1; k <= 6; k++) {
       due(when + ": told(" + k + ")", x.told(k), counts[k - 1]);
@@ -90,7 +74,7 @@ public final class PromisesTest {
   }
 
   private static void personIs() {
-    GoingAbout x = with(47, 31, 6, 0, 5, 5);
+    GoingAbout x = Due.with(47, 31, 6, 0, 5, 5);
     x.call(0, 1);
     stands("3", x, 0, 4, 7, 31, 6, 2);
     stands("3", x, 1, 0, 0, 31, 5, 0);
@@ -103,7 +87,7 @@ public final class PromisesTest {
   }
 
   private static void become() {
-    GoingAbout x = with(47, 31, 6, 0, 50, 5);
+    GoingAbout x = Due.with(47, 31, 6, 0, 50, 5);
     x.call(0, 1);
     due("4: become(0, 69)", x.become(0, 69), 4);
     stands("4", x, 0, 6, 9, 50, 6, 2);
@@ -119,7 +103,7 @@ public final class PromisesTest {
 
   private static void as() {
     int[][] under = {{0}, {0, 1}, {0, 2}, {0, 3}, {0, 1, 4}, {0, 2, 5}, {0, 6}};
-    GoingAbout x = with(0, 0, 0);
+    GoingAbout x = Due.with(0, 0, 0);
     int unlike = 0;
     for (int kind = 0; kind < 7; kind++) {
       x.become(0, 10 * kind + kind + 1);
@@ -140,7 +124,7 @@ public final class PromisesTest {
   }
 
   private static void shows() {
-    GoingAbout x = with(0, 10, 3);
+    GoingAbout x = Due.with(0, 10, 3);
     due("6: shows(0, 9)", x.shows(0, 9), 3);
     due("6: shows(0, 0)", x.shows(0, 0), 9);
     due("6: shows(0, 10)", x.shows(0, 10), BEYOND);
@@ -151,7 +135,7 @@ public final class PromisesTest {
   }
 
   private static void seems() {
-    GoingAbout x = with(0, 10, 3);
+    GoingAbout x = Due.with(0, 10, 3);
     due("7: seems(0, 99)", x.seems(0, 99), 10);
     due("7: seems(0, 0)", x.seems(0, 0), 99);
     due("7: seems(0, 100)", x.seems(0, 100), BEYOND);
@@ -162,7 +146,7 @@ public final class PromisesTest {
   }
 
   private static void taken() {
-    GoingAbout x = with(0, 50, 0, 0, 33, 4);
+    GoingAbout x = Due.with(0, 50, 0, 0, 33, 4);
     int[] taken = {40, 40 + 5 + 7, (40 + 33) / 2, 59, 40 + 5 + 7 + 3, 77, 40};
     x.days(1);
     x.days(1);
@@ -195,7 +179,7 @@ public final class PromisesTest {
   }
 
   private static void call() {
-    GoingAbout x = with(0, 10, 1, 0, 80, 2, 0, 30, 3);
+    GoingAbout x = Due.with(0, 10, 1, 0, 80, 2, 0, 30, 3);
     due("9: call(0, 1)", x.call(0, 1), 80);
     stands("9", x, 0, 0, 0, 80, 1, 2);
     stands("9", x, 1, 0, 0, 80, 2, 0);
@@ -362,7 +346,7 @@ public final class PromisesTest {
   }
 
   private static void days() {
-    GoingAbout x = with(0, 10, 3, 0, 20, 5, 30, 30, 0);
+    GoingAbout x = Due.with(0, 10, 3, 0, 20, 5, 30, 30, 0);
     due("14: days(1)", x.days(1), 1);
     stands("14", x, 0, 0, 0, (30 + 69) / 2, 3, 0);
     stands("14", x, 1, 0, 0, 49, 5, 0);
@@ -401,7 +385,7 @@ public final class PromisesTest {
       x.days(1);
       stands("14: of km " + one[0], x, 0, one[0] / 10, one[0] % 10, one[1], one[4], 0);
     }
-    GoingAbout x = with(0, 60, 2, 0, 30, 3);
+    GoingAbout x = Due.with(0, 60, 2, 0, 30, 3);
     Due.text(x, 1, "g+n/30+d");
     x.days(1);
     stands("14: by a TEXT", x, 0, 0, 0, 20, 4, 0);
@@ -423,10 +407,11 @@ public final class PromisesTest {
     x.person(0, 40, 4);
     due("15: one alone", x.loose(1), 0);
     due("15: no draws", x.count(6), 1);
-    x.person(0, 10, 1);
-    drawn(x, 2, 40);
-    x.person(40, 77, 2);
-    drawn(x, 3, 40);
+    for (int z : new int[] {1, 0, -1, -5, 77, MIN, MAX}) {
+      drawn(z, 0, 40, 4, 0, 10, 1);
+      drawn(z, 0, 40, 4, 0, 10, 1, 40, 77, 2);
+      drawn(z, 10, 40, 4, 23, 10, 1, 40, 77, 2, 60, 5, 0, 32, 99, 9, 51, 0, 8, 0, 50, 3, 0, 1, 7);
+    }
     GoingAbout late = new GoingAbout();
     for (int i = 1; i <= 99; i++) {
       late.days(100);
@@ -440,38 +425,35 @@ public final class PromisesTest {
     told("15", late, 1, 0, 2, 0, 0, 0);
   }
 
-  /** The same draws made by hand, by shows() and call(), on the same object as it was. */
-  private static void drawn(GoingAbout x, int people, int times) {
-    x.seed(-5);
-    for (int i = 0; i < times; i++) {
+  /** The same draws made by hand, by shows() and call() and days(1), on another object alike. */
+  private static void drawn(int from, int... people) {
+    GoingAbout byHand = Due.with(people);
+    GoingAbout x = Due.with(people);
+    x.seed(from);
+    int there = people.length / 3;
+    int z = from;
+    for (int day = 1; day <= 8; day++) {
       int[] draws = new int[4];
-      int z = x.count(6);
       for (int k = 0; k < 4; k++) {
         z = z * 1103515245 + 12345;
         draws[k] = z >>> 8;
       }
-      x.image();
-      x.shows(draws[0] % people, draws[1] % 10);
-      if (draws[2] % people != draws[3] % people) {
-        x.call(draws[2] % people, draws[3] % people);
+      byHand.shows(draws[0] % there, draws[1] % 10);
+      if (draws[2] % there != draws[3] % there) {
+        byHand.call(draws[2] % there, draws[3] % there);
       }
-      x.days(1);
-      int nearest = x.count(2);
-      int[] numbers = new int[5 * people];
-      for (int k = 0; k < numbers.length; k++) {
-        numbers[k] = x.personIs(k / 5, k % 5);
-      }
-      x.restore();
-      due("15: loose(1)", x.loose(1), nearest);
-      for (int k = 0; k < numbers.length; k++) {
-        due("15: personIs(" + k / 5 + ", " + k % 5 + ")", x.personIs(k / 5, k % 5), numbers[k]);
+      byHand.days(1);
+      due("15: loose(1)", x.loose(1), byHand.count(2));
+      for (int k = 0; k < 5 * there; k++) {
+        due("15: personIs(" + k / 5 + ", " + k % 5 + ")", x.personIs(k / 5, k % 5), byHand.personIs(k / 5, k % 5));
       }
       due("15: z", x.count(6), z);
+      due("15: DAY", x.count(1), day);
     }
   }
 
   private static void seed() {
-    GoingAbout x = with(0, 1, 1, 0, 2, 2);
+    GoingAbout x = Due.with(0, 1, 1, 0, 2, 2);
     due("16: seed(77)", x.seed(77), 1);
     due("16: seed(MIN)", x.seed(MIN), 77);
     due("16: z", x.count(6), MIN);
@@ -499,7 +481,7 @@ public final class PromisesTest {
   }
 
   private static void then() {
-    GoingAbout x = with(0, 10, 3, 0, 20, 5);
+    GoingAbout x = Due.with(0, 10, 3, 0, 20, 5);
     Due.text(x, 1, "g+1");
     due("18: now", x.then(0, 0, 0), 10);
     due("18: now", x.then(0, 0, 1), 3);
@@ -528,8 +510,8 @@ public final class PromisesTest {
 
   private static void settles() {
     due("19: nobody", new GoingAbout().settles(), 0);
-    due("19: one", with(0, 10, 3).settles(), 0);
-    GoingAbout x = with(0, 10, 3, 0, 20, 5);
+    due("19: one", Due.with(0, 10, 3).settles(), 0);
+    GoingAbout x = Due.with(0, 10, 3, 0, 20, 5);
     due("19: two", x.settles(), 1);
     x.days(1);
     due("19: a day later", x.settles(), 0);
@@ -552,7 +534,7 @@ public final class PromisesTest {
 
   /** NEAR rises by one a DAY, and what is shown changes a DAY after NEAR came to 99. */
   private static void settlesLate() {
-    GoingAbout x = with(20, 1, 9, 20, 0, 9);
+    GoingAbout x = Due.with(20, 1, 9, 20, 0, 9);
     Due.text(x, 0, "n+(n<99)");
     Due.text(x, 1, "9-(n>98)");
     due("19: behind 100 DAYS", x.settles(), 100);
@@ -564,7 +546,7 @@ public final class PromisesTest {
   }
 
   private static void rank() {
-    GoingAbout x = with(0, 10, 3, 0, 80, 5, 0, 80, 0, 0, 99, 0);
+    GoingAbout x = Due.with(0, 10, 3, 0, 80, 5, 0, 80, 0, 0, 99, 0);
     due("20: rank(0)", x.rank(0), 3);
     due("20: rank(1)", x.rank(1), 1);
     due("20: rank(2)", x.rank(2), 1);
@@ -578,7 +560,7 @@ public final class PromisesTest {
   }
 
   private static void signs() {
-    GoingAbout x = with(0, 0, 5, 0, 0, 5, 0, 0, 5);
+    GoingAbout x = Due.with(0, 0, 5, 0, 0, 5, 0, 0, 5);
     signs(x, 0, 9, 1, 0);
     signs(x, 1, 9, 1, 2);
     signs(x, 2, 9, 4, 4);
@@ -595,13 +577,13 @@ public final class PromisesTest {
     due("21: what 2", x.signs(0, 0, 1, 2), BEYOND);
     due("21: what -1", x.signs(0, 0, 1, -1), BEYOND);
     told("21", x, 8, 2, 0, 0, 0, 0);
-    GoingAbout y = with(0, 60, 9, 0, 90, 5);
+    GoingAbout y = Due.with(0, 60, 9, 0, 90, 5);
     Due.text(y, 0, "s*n/10");
     signs(y, 1, 7, 1, 1);
-    GoingAbout z = with(0, 90, 5, 0, 60, 9, 0, 0, 0);
+    GoingAbout z = Due.with(0, 90, 5, 0, 60, 9, 0, 0, 0);
     Due.text(z, 0, "s*n/10");
     signs(z, 0, 7, 1, 1);
-    GoingAbout all = with(0, 0, 1, 0, 0, 1, 0, 0, 1, 0, 0, 1, 0, 0, 1, 0, 0, 1, 0, 0, 1, 0, 0, 1);
+    GoingAbout all = Due.with(0, 0, 1, 0, 0, 1, 0, 0, 1, 0, 0, 1, 0, 0, 1, 0, 0, 1, 0, 0, 1, 0, 0, 1);
     signs(all, 7, 0, 2, 127);
   }
 
@@ -612,7 +594,7 @@ public final class PromisesTest {
   }
 
   private static void heard() {
-    GoingAbout x = with(0, 0, 0, 0, 0, 0, 0, 0, 0, 0, 0, 0, 0, 0, 0, 0, 0, 0, 0, 0, 0, 0, 0, 0);
+    GoingAbout x = Due.with(0, 0, 0, 0, 0, 0, 0, 0, 0, 0, 0, 0, 0, 0, 0, 0, 0, 0, 0, 0, 0, 0, 0, 0);
     due("22: nobody else", x.heard(3), 8);
     for (int one = 7; one > 0; one--) {
       x.call(one, one - 1);
@@ -620,7 +602,7 @@ public final class PromisesTest {
     due("22: a chain downward", x.heard(7), 255);
     due("22: from its midst", x.heard(4), 31);
     due("22: from its end", x.heard(0), 1);
-    GoingAbout y = with(0, 0, 0, 0, 0, 0, 0, 0, 0, 0, 0, 0, 0, 0, 0, 0, 0, 0, 0, 0, 0, 0, 0, 0);
+    GoingAbout y = Due.with(0, 0, 0, 0, 0, 0, 0, 0, 0, 0, 0, 0, 0, 0, 0, 0, 0, 0, 0, 0, 0, 0, 0, 0);
     for (int one = 0; one < 7; one++) {
       y.call(one, one + 1);
     }
@@ -639,7 +621,7 @@ public final class PromisesTest {
   }
 
   private static void odds() {
-    GoingAbout x = with(0, 40, 4);
+    GoingAbout x = Due.with(0, 40, 4);
     due("23: nobody else", x.odds(0, 0), STATE);
     due("23: person 1", x.odds(1, 0), BEYOND);
     due("23: person -1", x.odds(-1, 0), BEYOND);
@@ -677,7 +659,7 @@ public final class PromisesTest {
   }
 
   private static void began() {
-    GoingAbout x = with(0, 10, 3, 0, 20, 5);
+    GoingAbout x = Due.with(0, 10, 3, 0, 20, 5);
     due("24: missing", x.began(0, 1, 0), NONE);
     due("24: sheet 4", x.began(4, 1, 0), BEYOND);
     due("24: sheet -1", x.began(-1, 1, 0), BEYOND);
@@ -686,23 +668,23 @@ public final class PromisesTest {
     due("24: what 2", x.began(0, 1, 2), BEYOND);
     due("24: what -1", x.began(0, 1, -1), BEYOND);
     told("24", x, 6, 1, 0, 0, 0, 0);
-    sheet(x, 0, 8, 30, 90);
+    Due.sheet(x, 0, 8, 30, 90);
     began(x, 0, 1, 1, 19);
     began(x, 0, 20, 1, 19);
     began(x, 0, 0, 0, NONE);
-    sheet(x, 0, 16, 30, 50);
+    Due.sheet(x, 0, 16, 30, 50);
     began(x, 0, 1, 2, 3);
-    sheet(x, 0, 32, 10, 20);
+    Due.sheet(x, 0, 32, 10, 20);
     began(x, 0, 0, 18, 1);
-    sheet(x, 0, 32, 40, 60);
+    Due.sheet(x, 0, 32, 40, 60);
     began(x, 0, 1, 0, NONE);
-    sheet(x, 0, 32, 0, 50);
+    Due.sheet(x, 0, 32, 0, 50);
     began(x, 0, 1, 0, NONE);
-    sheet(x, 0, 32, 30);
+    Due.sheet(x, 0, 32, 30);
     began(x, 0, 1, 10, 3);
-    sheet(x, 1, 32);
+    Due.sheet(x, 1, 32);
     began(x, 1, 1, 18, 1);
-    sheet(x, 1, 32, 30, 50, 0);
+    Due.sheet(x, 1, 32, 30, 50, 0);
     began(x, 1, 1, 0, NONE);
     stands("24", x, 0, 0, 0, 10, 3, 0);
     GoingAbout empty = new GoingAbout();
@@ -711,27 +693,27 @@ public final class PromisesTest {
   }
 
   private static void fits() {
-    GoingAbout x = with(0, 10, 3, 0, 20, 5);
+    GoingAbout x = Due.with(0, 10, 3, 0, 20, 5);
     due("25: sheet 4", x.fits(4), BEYOND);
     due("25: sheet -1", x.fits(-1), BEYOND);
     due("25: missing", x.fits(0), NONE);
-    sheet(x, 0, 8, 10, 20);
+    Due.sheet(x, 0, 8, 10, 20);
     due("25: now", x.fits(0), 0);
-    sheet(x, 0, 16, 30, 50);
+    Due.sheet(x, 0, 16, 30, 50);
     due("25: a DAY on", x.fits(0), 1);
-    sheet(x, 0, 32, 30, 51);
+    Due.sheet(x, 0, 32, 30, 51);
     due("25: never", x.fits(0), NONE);
-    sheet(x, 0, 32, 10, 20, 0);
+    Due.sheet(x, 0, 32, 10, 20, 0);
     due("25: more numbers than PEOPLE", x.fits(0), NONE);
-    sheet(x, 0, 32);
+    Due.sheet(x, 0, 32);
     due("25: no numbers", x.fits(0), 0);
-    sheet(x, 0, 32, 286, 20);
+    Due.sheet(x, 0, 32, 286, 20);
     due("25: no byte", x.fits(0), NONE);
     Due.text(x, 0, "n+1");
-    sheet(x, 0, 8, 99, 99);
+    Due.sheet(x, 0, 8, 99, 99);
     due("25: 89 DAYS on", x.fits(0), 89);
     Due.text(x, 0, "(n+1)%100");
-    sheet(x, 0, 8, 9, 19);
+    Due.sheet(x, 0, 8, 9, 19);
     due("25: 99 DAYS on", x.fits(0), 99);
     x.seems(1, 21);
     Due.text(x, 0, "(n+1)%101%99");
@@ -743,10 +725,10 @@ public final class PromisesTest {
 
   /** NEAR rises by one, but stands still on one DAY: 99 comes 100 DAYS on; then 101, never. */
   private static void hundredDaysOn() {
-    GoingAbout x = with(0, 0, 1, 0, 0, 1);
+    GoingAbout x = Due.with(0, 0, 1, 0, 0, 1);
     Due.text(x, 0, "n+(s>0|n>5)");
     Due.text(x, 1, "g|n");
-    sheet(x, 0, 8, 99, 99);
+    Due.sheet(x, 0, 8, 99, 99);
     due("25: 99 DAYS on", x.fits(0), 99);
     x.shows(0, 0);
     x.shows(1, 0);
@@ -776,7 +758,7 @@ public final class PromisesTest {
       {50, 20, 10}, {11, 50, 20, 10}, {51, 12, 11, 50, 20, 10}, {21, 13, 11, 50, 20, 10},
       {10}, {60, 30, 11, 10}, {12, 60, 30, 11, 10}, {13},
       {70}, {71, 11, 70}, {12, 71, 11, 70}, {13}};
-    GoingAbout x = with(0, 0, 0, 0, 0, 0, 0, 0, 0);
+    GoingAbout x = Due.with(0, 0, 0, 0, 0, 0, 0, 0, 0);
     for (int kind = 0; kind < 7; kind++) {
       x.become(2, 10 * kind + 5);
       for (int voice = 0; voice < 4; voice++) {
@@ -813,7 +795,7 @@ public final class PromisesTest {
   }
 
   private static void body() {
-    GoingAbout x = with(10, 0, 0);
+    GoingAbout x = Due.with(10, 0, 0);
     due("27: body(0)", x.body(0), NONE);
     x.voice(0, 1, 1);
     due("27: body(0)", x.body(0), 11);
@@ -831,7 +813,7 @@ public final class PromisesTest {
   }
 
   private static void sheet() {
-    GoingAbout x = with(0, 7, 0);
+    GoingAbout x = Due.with(0, 7, 0);
     due("28: sheet(0, 8, 24)", x.sheet(0, 8, 24), 1);
     due("28: put(0, 23, 1)", x.put(0, 23, 1), 1);
     due("28: put(0, 24, 1)", x.put(0, 24, 1), BEYOND);
@@ -863,7 +845,7 @@ public final class PromisesTest {
   }
 
   private static void put() {
-    GoingAbout x = with(0, 7, 0, 0, 8, 0);
+    GoingAbout x = Due.with(0, 7, 0, 0, 8, 0);
     x.sheet(0, 8, 2);
     x.sheet(1, 16, 2);
     x.sheet(2, 32, 2);
@@ -900,10 +882,10 @@ public final class PromisesTest {
   }
 
   private static void move() {
-    GoingAbout x = with(0, 0, 0, 0, 0, 0, 0, 0, 0, 0, 0, 0, 0, 0, 0);
-    sheet(x, 0, 8, 1, 2, 3, 4, 5);
-    sheet(x, 1, 8, 11, 12, 13);
-    sheet(x, 2, 16, 21);
+    GoingAbout x = Due.with(0, 0, 0, 0, 0, 0, 0, 0, 0, 0, 0, 0, 0, 0, 0);
+    Due.sheet(x, 0, 8, 1, 2, 3, 4, 5);
+    Due.sheet(x, 1, 8, 11, 12, 13);
+    Due.sheet(x, 2, 16, 21);
     due("30: to another", x.move(0, 3, 1, 0, 2), 2);
     row("30", x, 1, 4, 5, 13);
     row("30", x, 0, 1, 2, 3, 4, 5);
@@ -944,57 +926,57 @@ public final class PromisesTest {
   }
 
   private static void nears() {
-    GoingAbout x = with(0, 7, 0, 0, 8, 0, 0, 9, 0);
+    GoingAbout x = Due.with(0, 7, 0, 0, 8, 0, 0, 9, 0);
     due("31: missing", x.nears(0), NONE);
     due("31: sheet 4", x.nears(4), BEYOND);
     due("31: sheet -1", x.nears(-1), BEYOND);
-    sheet(x, 0, 32, 99, 100, 50);
+    Due.sheet(x, 0, 32, 99, 100, 50);
     due("31: up to 100", x.nears(0), 1);
     stands("31", x, 0, 0, 0, 99, 0, 0);
     stands("31", x, 1, 0, 0, 8, 0, 0);
     stands("31", x, 2, 0, 0, 9, 0, 0);
-    sheet(x, 0, 32, 0, 1, -1);
+    Due.sheet(x, 0, 32, 0, 1, -1);
     due("31: up to -1", x.nears(0), 2);
     stands("31", x, 0, 0, 0, 0, 0, 0);
     stands("31", x, 1, 0, 0, 1, 0, 0);
     stands("31", x, 2, 0, 0, 9, 0, 0);
-    sheet(x, 1, 16, 3, 4, 5, 6);
+    Due.sheet(x, 1, 16, 3, 4, 5, 6);
     due("31: for whom there is nobody", x.nears(1), 3);
     stands("31", x, 2, 0, 0, 5, 0, 0);
-    sheet(x, 1, 16, 44);
+    Due.sheet(x, 1, 16, 44);
     due("31: one number", x.nears(1), 1);
     stands("31", x, 1, 0, 0, 4, 0, 0);
     told("31", x, 2, 1, 0, 0, 0, 0);
   }
 
   private static void judge() {
-    GoingAbout x = with(0, 7, 3, 10, 60, 4, 50, 77, 1);
+    GoingAbout x = Due.with(0, 7, 3, 10, 60, 4, 50, 77, 1);
     due("32: missing", x.judge(0), NONE);
     due("32: sheet 4", x.judge(4), BEYOND);
     due("32: sheet -1", x.judge(-1), BEYOND);
-    sheet(x, 0, 8, 3, 5, 7);
+    Due.sheet(x, 0, 8, 3, 5, 7);
     due("32: all", x.judge(0), 3);
     x.put(0, 1, 4);
     due("32: from the first on", x.judge(0), 1);
     x.put(0, 0, 4);
     due("32: none", x.judge(0), 0);
-    sheet(x, 0, 16, 3, 5, 7, 0);
+    Due.sheet(x, 0, 16, 3, 5, 7, 0);
     due("32: nobody", x.judge(0), 3);
-    sheet(x, 0, 16, 3, 5);
+    Due.sheet(x, 0, 16, 3, 5);
     due("32: fewer", x.judge(0), 2);
-    sheet(x, 0, 32, 3, 5 + 256);
+    Due.sheet(x, 0, 32, 3, 5 + 256);
     due("32: no byte", x.judge(0), 1);
     Due.text(x, 1, "g+n/30+d");
     x.days(5);
     x.seems(0, 60);
     x.shows(0, 1);
-    sheet(x, 0, 32, 8);
+    Due.sheet(x, 0, 32, 8);
     due("32: by a TEXT", x.judge(0), 1);
     told("32", x, 2, 1, 0, 0, 0, 0);
   }
 
   private static void image() {
-    GoingAbout x = with(12, 30, 3, 60, 40, 4);
+    GoingAbout x = Due.with(12, 30, 3, 60, 40, 4);
     x.call(0, 1);
     Due.text(x, 0, "s*3");
     Due.text(x, 1, "7");
@@ -1003,7 +985,7 @@ public final class PromisesTest {
     x.tell(41);
     x.seed(99);
     x.days(3);
-    sheet(x, 0, 8, 5);
+    Due.sheet(x, 0, 8, 5);
     x.voice(0, 0, 1);
     due("33: image()", x.image(), 1);
     x.person(0, 1, 1);
@@ -1019,7 +1001,7 @@ public final class PromisesTest {
     x.tell(8);
     x.seed(5);
     x.days(9);
-    sheet(x, 0, 16, 6, 7);
+    Due.sheet(x, 0, 16, 6, 7);
     x.voice(1, 1, 1);
     x.told(0);
     due("34: restore()", x.restore(), 3);
@@ -1069,7 +1051,7 @@ public final class PromisesTest {
   }
 
   private static void tell() {
-    GoingAbout x = with(0, 7, 0);
+    GoingAbout x = Due.with(0, 7, 0);
     for (int i = 1; i <= 24; i++) {
       due("35: tell", x.tell(7), i);
     }
@@ -1081,7 +1063,7 @@ public final class PromisesTest {
   }
 
   private static void check() {
-    GoingAbout x = with(0, 7, 0, 0, 8, 0, 0, 9, 0);
+    GoingAbout x = Due.with(0, 7, 0, 0, 8, 0, 0, 9, 0);
     due("36: none wait", x.check(), 0);
     x.tell(7);
     x.tell(8);
@@ -1108,7 +1090,7 @@ public final class PromisesTest {
   }
 
   private static void count() {
-    GoingAbout x = with(0, 7, 2, 0, 30, 0, 0, 30, 0);
+    GoingAbout x = Due.with(0, 7, 2, 0, 30, 0, 0, 30, 0);
     x.days(1);
     x.seems(1, 30);
     x.seems(2, 30);
@@ -1130,7 +1112,7 @@ public final class PromisesTest {
   }
 
   private static void told() {
-    GoingAbout x = with(0, 0, 0);
+    GoingAbout x = Due.with(0, 0, 0);
     told("38", x, 0, 0, 0, 0, 0, 0);
     due("38: told(7)", x.told(7), BEYOND);
     due("38: told(0)", x.told(0), BEYOND);

@@ -53,19 +53,21 @@ public final class RoomTest {
   }
 
   public static void main(String[] args) {
-    GoingAbout x = new GoingAbout();
-    for (int turn = 0; turn < 20; turn++) {
-      allCalls(x, turn);
-    }
+    GoingAbout[] objects = new GoingAbout[20];
     made();
     long before = made();
+    for (int i = 0; i < objects.length; i++) {
+      objects[i] = new GoingAbout();
+    }
+    long object = (made() - before) / objects.length;
+    for (int turn = 0; turn < 10; turn++) {
+      allCalls(new GoingAbout(), turn);
+    }
+    before = made();
     for (int turn = 0; turn < 200; turn++) {
-      allCalls(x, turn);
+      allCalls(objects[turn % 20], turn);
     }
     long calls = made() - before;
-    before = made();
-    new GoingAbout();
-    long object = made() - before;
     Due.due("bytes made by 8,000 calls, below 4,000: " + calls, calls < 4000 ? 1 : 0, 1);
     Due.due("bytes of an object, below 8,000: " + object, object < 8000 ? 1 : 0, 1);
     System.out.println(calls + " bytes by calls, " + object + " an object");

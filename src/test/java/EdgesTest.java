@@ -420,6 +420,22 @@ public final class EdgesTest {
     gives(0, "(r|0)+(r&1)+!!r", 77, 0, 0, 3);
   }
 
+  /** | & < = > ! are 1 or 0, and nothing else, which is worked on with. */
+  private static void truths() {
+    int[] any = {MIN, -1, 0, 1, 2, MAX};
+    for (int a : any) {
+      gives(0, "5+!r", a, 0, 0, a == 0 ? 6 : 5);
+      gives(0, "5+!!r", a, 0, 0, a == 0 ? 5 : 6);
+      for (int b : any) {
+        gives(0, "5+(r|n)", a, b, 0, a != 0 || b != 0 ? 6 : 5);
+        gives(0, "5+(r&n)", a, b, 0, a != 0 && b != 0 ? 6 : 5);
+        gives(0, "5+(r<n)", a, b, 0, a < b ? 6 : 5);
+        gives(0, "5+(r=n)", a, b, 0, a == b ? 6 : 5);
+        gives(0, "5+(r>n)", a, b, 0, a > b ? 6 : 5);
+      }
+    }
+  }
+
   // ---- 3: what is, what would be
 
   private static void nearestAndRank() {
@@ -496,6 +512,22 @@ public final class EdgesTest {
     due("signs(0, 3, 1, 1)", x.signs(0, 3, 1, 1), 0);
     due("signs(1, 3, 1, 1)", x.signs(1, 3, 1, 1), 1);
     due("signs(7, 2, 1, 0)", x.signs(7, 2, 1, 0), Due.NONE);
+  }
+
+  /** Two others who SHOW 3 seem less near, but so does the last one alone seem nearer: fewer, though a greater set. */
+  private static void signsOfFewer() {
+    String text = "(n=0)*(10+(s=3)*20)+(n=1)*!(s=3)*20";
+    GoingAbout x = Due.with(0, 1, 0, 0, 1, 0, 0, 0, 0);
+    Due.text(x, 0, text);
+    due("signs(2, 3, 1, 0)", x.signs(2, 3, 1, 0), 1);
+    due("signs(2, 3, 1, 1)", x.signs(2, 3, 1, 1), 4);
+    GoingAbout first = Due.with(0, 0, 0, 0, 1, 0, 0, 1, 0);
+    Due.text(first, 0, text);
+    due("signs(0, 3, 1, 1)", first.signs(0, 3, 1, 1), 1);
+    GoingAbout asMany = Due.with(0, 1, 0, 0, 0, 0);
+    Due.text(asMany, 0, text);
+    due("signs(1, 3, 1, 0)", asMany.signs(1, 3, 1, 0), 1);
+    due("signs(1, 3, 1, 1), of two sets of one the least", asMany.signs(1, 3, 1, 1), 1);
   }
 
   /** Of sets as large the least: any one of 0, 1, 2 is enough; n is 1 to 4, a sign 0 to 9. */
@@ -1025,10 +1057,12 @@ public final class EdgesTest {
     feeds();
     held();
     wraps();
+    truths();
     nearestAndRank();
     beyondLastDay();
     settlesAt();
     signsOfAll();
+    signsOfFewer();
     signsOfSome();
     heardAll();
     odds();

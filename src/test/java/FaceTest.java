@@ -9,6 +9,7 @@ import java.nio.file.Paths;
 import java.util.ArrayList;
 import java.util.Arrays;
 import java.util.List;
+import java.util.Set;
 import java.util.TreeSet;
 import java.util.regex.Matcher;
 import java.util.regex.Pattern;
@@ -24,6 +25,10 @@ public final class FaceTest {
     "image()", "restore()", "tell(int)", "check()", "count(int)", "told(int)",
   };
 
+  /** All that is called on a class of the library, or on an object of it, by name. */
+  private static final Set<String> LIBRARY = Set.of("System.arraycopy", "Math.max", "Math.min", "Integer.bitCount");
+  private static final Set<String> TYPES = Set.of("GoingAbout", "System", "Math", "Integer", "String");
+
   private static boolean isHidden(int modifiers) {
     return Modifier.isPrivate(modifiers);
   }
@@ -36,6 +41,14 @@ public final class FaceTest {
     return method.getName() + "(" + String.join(",", types) + ")";
   }
 
+  private static Set<String> publicNames() {
+    Set<String> names = new TreeSet<>();
+    for (String method : FACE) {
+      names.add(method.substring(0, method.indexOf('(')));
+    }
+    return names;
+  }
+
   private static void lookAtFace() {
     Class<?> x = GoingAbout.class;
     Due.due("public and final", x.getModifiers(), Modifier.PUBLIC | Modifier.FINAL);
@@ -44,10 +57,7 @@ public final class FaceTest {
     Due.due("constructor's arguments", made[0].getParameterCount(), 0);
     Due.due("public constructor", made[0].getModifiers(), Modifier.PUBLIC);
     TreeSet<String> due = new TreeSet<>(Arrays.asList(FACE));
-    TreeSet<String> names = new TreeSet<>();
-    for (String method : FACE) {
-      names.add(method.substring(0, method.indexOf('(')));
-    }
+    Set<String> names = publicNames();
     for (Method method : x.getDeclaredMethods()) {
       if (isHidden(method.getModifiers())) {
         Due.due("private " + method.getName() + " bears a public name", names.contains(method.getName()) ? 1 : 0, 0);
@@ -76,9 +86,32 @@ public final class FaceTest {
     for (Method method : in.getDeclaredMethods()) {
       Due.due(method.getName() + " takes seven at most", method.getParameterCount() <= 7 ? 1 : 0, 1);
     }
+    Due.due("some twelve classes at most", in.getDeclaredClasses().length <= 11 ? 1 : 0, 1);
     for (Class<?> inner : in.getDeclaredClasses()) {
       Due.due(inner.getName() + " is static", Modifier.isStatic(inner.getModifiers()) ? 1 : 0, 1);
+      Due.due(inner.getName() + " is not public", Modifier.isPublic(inner.getModifiers()) ? 1 : 0, 0);
+      for (Method method : inner.getDeclaredMethods()) {
+        String name = inner.getName() + "." + method.getName();
+        Due.due(name + " bears a public name", publicNames().contains(method.getName()) ? 1 : 0, 0);
+        Due.due(name + " is private", isHidden(method.getModifiers()) ? 1 : 0, 1);
+      }
       lookInside(inner);
+    }
+  }
+
+  /** Names with a capital and a small letter are classes: the program's own, or what it may use. */
+  private static void lookAtNames(String code) {
+    Set<String> known = new TreeSet<>(TYPES);
+    for (Class<?> inner : GoingAbout.class.getDeclaredClasses()) {
+      known.add(inner.getSimpleName());
+    }
+    Matcher named = Pattern.compile("\\b[A-Z]\\w*[a-z]\\w*\\b").matcher(code);
+    while (named.find()) {
+      Due.due("a class in the text: " + named.group(), known.contains(named.group()) ? 1 : 0, 1);
+    }
+    Matcher used = Pattern.compile("\\b(System|Math|Integer)\\s*\\.\\s*\\w+").matcher(code);
+    while (used.find()) {
+      Due.due("of the library: " + used.group(), LIBRARY.contains(used.group()) ? 1 : 0, 1);
     }
   }
 
@@ -96,6 +129,7 @@ public final class FaceTest {
     while (barred.find()) {
       Due.due("barred in the text: " + barred.group(), 1, 0);
     }
+    lookAtNames(code);
     int lines = 0;
     for (String line : text.split("\n")) {
       lines = line.matches("  (  )?\\S.*\\) \\{") ? 0 : lines + 1;

@@ -8,8 +8,8 @@ import java.util.Random;
 
 /** Runs of calls drawn at random (from fixed seeds), answered by the program and by Plain. */
 public final class RandomRunsTest {
-  private static final int[] EDGES = {-1, 0, 1, 2, 3, 8, 9, 10, 24, 25, 99, 100, 101,
-    Integer.MAX_VALUE, Integer.MIN_VALUE, 0x7fffffff, -2};
+  private static final int[] EDGES = {-2, -1, 0, 1, 2, 3, 4, 5, 7, 8, 9, 10, 20, 21, 23, 24, 25, 30, 31, 60, 61, 69, 70,
+    99, 100, 101, 9999, 10000, Integer.MAX_VALUE, Integer.MAX_VALUE - 1, Integer.MIN_VALUE, Integer.MIN_VALUE + 1};
 
   /** A letter an argument: p person, K km, k kind, N near, S sign, u use, h sheet, ? any, ... */
   private static final String[] CALLS = {
@@ -21,13 +21,16 @@ public final class RandomRunsTest {
   };
 
   private final Random random;
+  /** One argument of so many is taken from the edges, whether the act can be done with it or not. */
+  private final int usual;
   private final GoingAbout x = new GoingAbout();
   private final Plain plain = new Plain();
   private final List<String> said = new ArrayList<>();
   private int people = 0;
 
-  private RandomRunsTest(long seed) {
+  private RandomRunsTest(long seed, int usual) {
     random = new Random(seed);
+    this.usual = usual;
   }
 
   private static final Map<String, Method> OF_X = methodsOf(GoingAbout.class);
@@ -53,8 +56,8 @@ public final class RandomRunsTest {
     return random.nextInt(most + 1);
   }
 
-  private int odd(int usual) {
-    return random.nextInt(40) == 0 ? EDGES[random.nextInt(EDGES.length)] : usual;
+  private int odd(int fitting) {
+    return random.nextInt(usual) == 0 ? EDGES[random.nextInt(EDGES.length)] : fitting;
   }
 
   private int edgeOrAny() {
@@ -191,7 +194,7 @@ public final class RandomRunsTest {
   public static void main(String[] args) throws ReflectiveOperationException {
     int runs = args.length > 0 ? Integer.parseInt(args[0]) : 250;
     for (int seed = 0; seed < runs; seed++) {
-      new RandomRunsTest(seed).run(1 + seed % 8);
+      new RandomRunsTest(seed, seed % 5 == 4 ? 3 : 40).run(1 + seed % 8);
     }
     Due.finish();
   }
